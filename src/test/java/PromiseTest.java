@@ -26,6 +26,7 @@ public final class PromiseTest {
         askAndForget();
         meeting();
         meetingOfMany();
+        meetingOfLongRows();
         shifts();
         most();
         hut();
@@ -37,6 +38,7 @@ public final class PromiseTest {
         keepAndBack();
         count();
         farNumbers();
+        landsAfterOthers();
         System.out.println(wrong == 0 ? "PromiseTest: all answers are as due" : wrong + " answers are not as due");
         if (wrong != 0) {
             System.exit(1);
@@ -154,6 +156,10 @@ public final class PromiseTest {
         fault("u;", 0);
         fault("u", 0);
         fault("u3", 0);
+        fault("u;;", 0);
+        fault("u:;", 0);
+        fault("u3:;", 0);
+        fault("u/;", 0);
         fault("u3,4;", 0);
         fault("u3:", 0);
         fault("U3;", 0);
@@ -303,6 +309,7 @@ public final class PromiseTest {
         due("damp(1) in YEAR 2", x.damp(1), 3);
         due("damp(100)", x.damp(100), BAD);
         due("damp(-1)", x.damp(-1), BAD);
+        due("damp(5), one told", laid("s0,5,0;p1;d2;").damp(5), 2);
         due("damp(5), none told", laid("s0,5,0;p1;").damp(5), 0);
     }
 
@@ -431,6 +438,10 @@ public final class PromiseTest {
         due("land(1, 0, 2)", x.land(1, 0, 2), 1);
         due("strip(2, 4)", x.strip(2, 4), 1);
         due("line(5), of one land alone", x.line(5), NO);
+        x = laid("u1;u1;u1;u1;u1;u1;l7;s0,5,0;p1;");
+        due("line(7), one alone behind a full land", x.line(7), NO);
+        x = laid("l0;s0,5,0;p1;");
+        due("line(0), where none is told", x.line(0), NO);
         x = laid("u5;l5;s0,6,0;p1;");
         due("line(5), of UPPER and LOWER", x.line(5), 2);
         due("land(0, 0, 2)", x.land(0, 0, 2), 1);
@@ -474,6 +485,16 @@ public final class PromiseTest {
         counts(x, 1, 1, 1, 1, 0, 43, 40);
         due("undo() of a PUSH", x.undo(), 0);
         due("undo()", x.undo(), NO);
+        for (int i = 1; i <= 12; i++) {
+            due("chalk(" + i % 10 + ")", x.chalk(i % 10), (i - 1) % 10);
+        }
+        for (int i = 11; i >= 4; i--) {
+            due("undo()", x.undo(), i - 4);
+            due("count(7)", x.count(7), i % 10);
+        }
+        due("undo(), behind 8", x.undo(), NO);
+        due("chalk(0)", x.chalk(0), 4);
+        x = laid("u5;l5;s0,5,7;p3;");
         for (int i = 0; i < 9; i++) {
             x.push(0, i < 5 ? 0 : 1);
         }
@@ -581,6 +602,48 @@ public final class PromiseTest {
         due("meeting(2)", x.meeting(2), 0);
     }
 
+    private static void meetingOfLongRows() {
+        // 12 = 9 + 5 - 2 = 5 + 5 + 2.
+        SlideLand x = laid("u22;u10;u15;s0,10,0;s3,10,0;p9;p5;p2;");
+        x.ask(0, 0, 0);
+        int[] row = {0, 10, 21};
+        due("meeting(-1), of three", x.meeting(-1), 3);
+        for (int k = 0; k < 3; k++) {
+            due("meeting(" + k + "), of three", x.meeting(k), row[k]);
+        }
+        x.push(1, 1);
+        // 17 = 9 + 5 + 5 - 2 = 5 + 5 + 5 + 2, and there is none shorter.
+        due("meeting(-1), from elsewhere", x.meeting(-1), 4);
+        int[] longer = {0, 10, 10, 21};
+        for (int k = 0; k < 4; k++) {
+            due("meeting(" + k + "), from elsewhere", x.meeting(k), longer[k]);
+        }
+        due("meeting(4), from elsewhere", x.meeting(4), NONE);
+        // Pushed by 20 alone the STRIP is nowhere between.
+        x = laid("u10;s0,5,0;p20;");
+        x.ask(0, 0, 0);
+        due("meeting(-1), never", x.meeting(-1), NONE);
+        x.push(0, 1);
+        due("meeting(-1), never from elsewhere", x.meeting(-1), NONE);
+        // The SLOW one is never with the others, but at the ends.
+        x = laid("u10;s0,9,0;s3,9,0;p1;");
+        x.ask(0, 0, 0);
+        x.ask(1, 0, 0);
+        x.push(0, 0);
+        due("meeting(-1), of a SLOW one and another", x.meeting(-1), NONE);
+        x = laid("u10;l10;s0,50,0;s3,50,0;p20;");
+        x.ask(0, 0, 0);
+        x.ask(1, 1, 0);
+        due("meeting(-1), at the left end", x.meeting(-1), 3);
+        due("meeting(2), at the left end", x.meeting(2), 1);
+        // Only at the left end do pushes by 7 come off their own beat: -40, then -33.
+        x = laid("u7;s0,40,0;p7;");
+        x.ask(0, 0, 0);
+        due("meeting(-1), by the left end", x.meeting(-1), 7);
+        due("meeting(5), by the left end", x.meeting(5), 1);
+        due("meeting(6), by the left end", x.meeting(6), 0);
+    }
+
     private static void shifts() {
         promise = "19 shifts";
         SlideLand x = laid("u5;u60;s1,7,0;s3,8,0;s0,10,0;p1;");
@@ -625,6 +688,19 @@ public final class PromiseTest {
         due("most(1), of several the lowest", x.most(1), 35);
         x.pass(1);
         due("most(1), in a damp YEAR", x.most(1), 34);
+        x = laid("u0;s0,40,0;p1;");
+        due("most(0), at -40", x.most(0), 1);
+        due("most(0), at -40 again", x.most(0), 1);
+        due("most(1), at -40", x.most(1), 0);
+        due("most(1), at -39", laid("u1;s0,40,0;p1;").most(1), 1);
+        due("most(1), at 40", laid("u60;s0,20,0;p1;").most(1), 80);
+        due("most(0), beyond", laid("u60;s0,19,0;p1;").most(0), 0);
+        x = laid("u5;u7;l7;s2,10,0;p1;");
+        due("most(0), of a LEANING one", x.most(0), 3);
+        due("most(1), of a LEANING one", x.most(1), 37);
+        x = laid("u5;u7;s2,10,0;p1;");
+        due("most(0), of a LEANING one by both", x.most(0), 2);
+        due("most(1), of a LEANING one by both", x.most(1), 37);
         x = laid("s0,10,0;p1;");
         due("most(0), of nobody", x.most(0), 0);
         due("most(1), of nobody", x.most(1), 0);
@@ -718,6 +794,11 @@ public final class PromiseTest {
         x = laid("u7;s0,7,5;s0,9,4;p5;");
         due("worth(5, 0), to lose nothing", x.worth(5, 0), 0);
         due("worth(5, 1), to lose nothing", x.worth(5, 1), 9);
+        // By a PUSH one comes and the other goes: there is none by which both are there.
+        x = laid("u10;l10;s0,9,5;s3,9,5;p1;");
+        x.push(0, 0);
+        due("worth(1, 0), of one for another", x.worth(1, 0), 99);
+        due("worth(1, 1), of one for another", x.worth(1, 1), 11);
         // The SLOW one stays for now: only to be gone at a PUSH later.
         x = laid("u7;s3,7,5;p5;");
         due("worth(5, 0), of a SLOW one", x.worth(5, 0), 99);
@@ -752,6 +833,13 @@ public final class PromiseTest {
         x.ask(0, 0, 0);
         due("tells(0)", x.tells(0), 10);
         due("tells(1)", x.tells(1), 2);
+        x = laid("u5;s0,30,0;s2,31,0;p1;");
+        due("tells(0), of a LEANING one", x.tells(0), 100);
+        due("tells(1), of a LEANING one", x.tells(1), 79);
+        x = laid("u40;u45;s1,10,0;s0,12,0;s0,11,0;p1;");
+        x.ask(0, 0, 0);
+        due("tells(0), none of these telling anything but one", x.tells(0), 200);
+        due("tells(1), none of these telling anything but one", x.tells(1), 2);
         // What is against at all SHIFTS that are left tells as little as what is at none.
         x = laid("u5;l5;u9;s3,5,0;s0,7,0;p1;");
         x.push(0, 0);
@@ -829,6 +917,8 @@ public final class PromiseTest {
         // By 20: PUSH 2859 modulo as many to the left (22874 by 64, cut, is 357), a YEAR.
         due("century(20, 2, 0)", laid("u5;l5;s0,7,9;p9;p8;p7;p2;").century(20, 2, 0), 10);
         due("century(20, 2, 0)", laid("u5;l5;s0,9,9;p4;p8;p7;").century(20, 2, 0), 10);
+        // By 144: PUSH 6272 modulo as many to the right (50179 by 64, cut, is 784), a YEAR.
+        due("century(144, 2, 0)", laid("u5;l5;s0,3,9;p2;").century(144, 2, 0), 10);
         // By 94: CHALK 4, PUSH 7251 modulo as many to the right, a YEAR.
         due("century(94, 3, 0)", laid("u5;l5;s0,3,9;p9;p6;").century(94, 3, 0), 10);
         due("century(94, 3, 0)", laid("u5;l5;s0,3,9;p9;p4;").century(94, 3, 0), 9);
@@ -934,5 +1024,36 @@ public final class PromiseTest {
             }
         }
         counts(x, 5, 5, 5, 2, 0, 40, 40, 0, 0, 1, 0, 0, 0, 0);
+    }
+
+    /** What an earlier land had more of is nowhere in a later one. */
+    private static void landsAfterOthers() {
+        promise = "lands after others";
+        SlideLand x = laid("u5;u6;l5;l6;s0,5,50;s1,5,60;s1,5,70;p1;p2;p3;d3;d3;");
+        x.push(2, 0);
+        x.push(0, 0);
+        for (int time = 0; time < 2; time++) {
+            x.wipe();
+            writeAll(x, "u5;l6;s0,2,7;p3;");
+            due("lay()", x.lay(), 1);
+            counts(x, 1, 1, 1, 1, 0, 40, 40, 0, 0, 0, 0, 0, 0, 16);
+            due("strip(1, 0)", x.strip(1, 0), BAD);
+            due("inches(1)", x.inches(1), BAD);
+            due("push(1, 0)", x.push(1, 0), BAD);
+            due("land(0, 1, 0)", x.land(0, 1, 0), BAD);
+            due("damp(1)", x.damp(1), 0);
+            due("most(0)", x.most(0), 1);
+            due("most(1)", x.most(1), 43);
+            due("hut(0)", x.hut(0), 2);
+            due("worth(1, 0)", x.worth(1, 0), 99);
+            due("worth(1, 1)", x.worth(1, 1), 7);
+            due("century(3, 1, 0)", x.century(3, 1, 0), 7);
+            due("tells(1)", x.tells(1), 80);
+            due("pass(1)", x.pass(1), 1);
+            due("land(0, 0, 1)", x.land(0, 0, 1), 0);
+            due("land(1, 0, 1)", x.land(1, 0, 1), 0);
+            x.push(0, 0);
+            x.push(0, 0);
+        }
     }
 }
