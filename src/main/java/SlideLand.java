@@ -1076,7 +1076,7 @@ public final class SlideLand {
             return best;
         }
 
-        /** Of the SHIFTS found by findSo, how many are in the greater part: a pair being AGAINST one another, or not. */
+        /** Of the SHIFTS found by findSo, how many are in the greater part: of a pair AGAINST one another, or not. */
         int greaterPart(Told told, int year, int s, int one) {
             int kind = cell(told.kind, s), gap = told.gapUnshifted(s, one, year), against = 0;
             for (int met = LEAST_GAP; met <= MOST_GAP; met++) {
