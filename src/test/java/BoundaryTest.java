@@ -827,6 +827,13 @@ public final class BoundaryTest {
         // The RICH one is so at three, the LEANING one at two: together at the higher one of these.
         lay("u10;s1,10,0;s2,11,0;s3,11,0;p1;");
         calls("most(0)=3 most(1)=39 2*push(0,0) most(0)=3 most(1)=39");
+        // The LEANING one by both of its SHIFTS, and at the end of the groove by the one of them that is there.
+        lay("u5;u7;s2,10,0;p1;");
+        calls("most(0)=2 most(1)=37");
+        lay("u0;s2,42,0;p1;");
+        calls("most(0)=1 most(1)=0");
+        lay("u60;s2,21,0;p1;");
+        calls("most(0)=1 most(1)=79");
         lay("u0;u0;u0;u0;u0;u0;l0;l0;l0;l0;l0;l0;s0,1,0;s1,1,0;s2,1,0;s3,1,0;s0,1,0;s1,1,0;s2,1,0;p1;");
         calls("most(0)=84 most(1)=39");
 
