@@ -6,7 +6,9 @@ import java.lang.reflect.Modifier;
 import java.nio.file.Files;
 import java.nio.file.Path;
 import java.util.List;
+import java.util.Map;
 import java.util.Set;
+import java.util.TreeMap;
 import java.util.TreeSet;
 import java.util.regex.Matcher;
 import java.util.regex.Pattern;
@@ -24,6 +26,7 @@ public final class LanguageTest {
         face();
         insideClasses();
         words();
+        methods();
         objects();
         System.out.println(wrong == 0 ? "LanguageTest: all is as the rules ask" : wrong + " rules are broken");
         if (wrong != 0) {
@@ -113,6 +116,51 @@ public final class LanguageTest {
         for (int i = 0; i < source.length(); i++) {
             rule("signs 10 and 32 to 126 alone", source.charAt(i) == 10 || source.charAt(i) >= 32 && source.charAt(i) < 127);
         }
+    }
+
+    /** How long methods are and how deep calls go; methods of one name in unlike classes are taken as one, the deeper. */
+    private static void methods() throws Exception {
+        String source = Files.readString(Path.of("src/main/java/SlideLand.java"));
+        String code = source.replaceAll("(?s)/\\*.*?\\*/", "").replaceAll("//[^\n]*", "");
+        Pattern head = Pattern.compile("\n {4,8}(?:public |private )?(?:static )?(?:int|boolean|void) (\\w+)\\([^()]*\\) \\{");
+        Map<String, StringBuilder> bodies = new TreeMap<>();
+        Matcher m = head.matcher(code);
+        while (m.find()) {
+            String body = code.substring(m.end(), endOfBody(code, m.end()));
+            rule(m.group(1) + " has some sixty lines at most", body.split("\n").length <= 60);
+            bodies.computeIfAbsent(m.group(1), name -> new StringBuilder()).append(body);
+        }
+        rule("the methods were found: " + bodies.keySet(), bodies.size() > 60);
+        for (String name : bodies.keySet()) {
+            int deep = depth(name, bodies, new TreeSet<>());
+            rule("calls of " + name + " go eight deep at most, not " + deep, deep <= 8);
+        }
+    }
+
+    private static int endOfBody(String code, int from) {
+        int open = 1;
+        int i = from;
+        while (i < code.length() && open > 0) {
+            open += code.charAt(i) == '{' ? 1 : code.charAt(i) == '}' ? -1 : 0;
+            i++;
+        }
+        return i;
+    }
+
+    private static int depth(String name, Map<String, StringBuilder> bodies, Set<String> open) {
+        if (!open.add(name)) {
+            rule("no recursion: " + name + " in " + open, false);
+            return 1;
+        }
+        int deepest = 0;
+        Matcher call = Pattern.compile("\\b(\\w+)\\(").matcher(bodies.get(name));
+        while (call.find()) {
+            if (bodies.containsKey(call.group(1))) {
+                deepest = Math.max(deepest, depth(call.group(1), bodies, open));
+            }
+        }
+        open.remove(name);
+        return deepest + 1;
     }
 
     /** All calls of a run share one room: only a new object may make objects. */
